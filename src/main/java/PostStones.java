@@ -1705,12 +1705,15 @@ public final class PostStones {
          * which the other is LOST; to be lost, to have none behind which the other doesn't WIN.
          */
         private boolean decided(Board board, boolean asWin, int n, int level) {
-            if (board.hasLost()) {
-                return !asWin;
+            if (level >= LEVELS || (asWin && n < 1)) {
+                return false;
             }
             // nobody WINS in 0, so that LOST in 1 is to have lost
-            if (n < (asWin ? 1 : 2) || level >= LEVELS) {
-                return false;
+            if (!asWin && n < 2) {
+                return board.hasLost();
+            }
+            if (board.lacksKing()) {
+                return !asWin;
             }
             int[] list = lists[level];
             int many = board.listMoves(list);
