@@ -119,11 +119,10 @@ public final class PostStones {
     }
 
     public int letter(int player, int mark, int arrival, int answers) {
-        boolean answersNone = answers == NONE;
         if (!isPlayer(player) || !isDay(mark) || !isDay(arrival) || letters.isFull()) {
             return NONE;
         }
-        if (!answersNone && (!letters.has(answers) || letters.player[answers] == player)) {
+        if (answers != NONE && (!letters.has(answers) || letters.player[answers] == player)) {
             return NONE;
         }
         changes++;
@@ -586,7 +585,8 @@ public final class PostStones {
         private void readNumber() {
             sort = NUMBER;
             while (next < limit && bytes[next] >= '0' && bytes[next] <= '9') {
-                value = Math.min(HUGE, value * 10 + bytes[next] - '0');
+                int longer = value * 10 + bytes[next] - '0';
+                value = longer > HUGE ? HUGE : longer;
                 next++;
             }
         }
@@ -967,7 +967,7 @@ public final class PostStones {
                 case PLUS: return a + b;
                 case MINUS: return a - b;
                 // tested by a division first, as the product of two such values may not fit a long
-                case TIMES: return b != 0 && Math.abs(a) > LARGEST / Math.abs(b) ? ERROR : a * b;
+                case TIMES: return b != 0 && (a < 0 ? -a : a) > LARGEST / (b < 0 ? -b : b) ? ERROR : a * b;
                 case BY: return b == 0 ? ERROR : a / b;
                 default: return ERROR;
             }
@@ -1616,12 +1616,17 @@ public final class PostStones {
                     if (letters.plyOfIf[place] == ply) {
                         int ahead = letters.aheadOfIf[place];
                         int move = letters.moveOfIf[place];
-                        int fate = fateNow(ahead == NONE || ahead == last, chosen != NONE, move);
-                        fates[letter * MOST_IFS + which] = fate;
-                        if (fate == PLAYED) {
+                        int fate = NOT_LAWFUL;
+                        if (ahead != NONE && ahead != last) {
+                            fate = OTHER_AHEAD;
+                        } else if (chosen != NONE) {
+                            fate = OTHER_COUNTED;
+                        } else if (board.isLawful(move)) {
+                            fate = PLAYED;
                             chosen = move;
                             writers[ply] = letter;
                         }
+                        fates[letter * MOST_IFS + which] = fate;
                     }
                 }
             }
@@ -1631,16 +1636,6 @@ public final class PostStones {
             played[ply] = chosen;
             board.make(chosen);
             return true;
-        }
-
-        private int fateNow(boolean follows, boolean counted, int move) {
-            if (!follows) {
-                return OTHER_AHEAD;
-            }
-            if (counted) {
-                return OTHER_COUNTED;
-            }
-            return board.isLawful(move) ? PLAYED : NOT_LAWFUL;
         }
 
         /** 1: it was PLAYED, 0: its PLY isn't made, below 0: why it is VOID. */
