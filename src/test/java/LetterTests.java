@@ -63,6 +63,7 @@ public final class LetterTests {
         Due.due("post(0, 4)", x.post(0, 4), 6);
         x.letter(0, 0, 0, -1);
         Due.due("when() of player 0 at ply 1", x.when(1, -1, 1), -1);
+        Due.due("when() at ply 60", x.when(60, -1, 1), -1);
         Due.due("when() comes to the last letter", x.when(58, -1, 1), 1);
     }
 

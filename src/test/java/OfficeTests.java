@@ -64,6 +64,17 @@ public final class OfficeTests {
         Due.due("forged(): one sent again answers the same", z.forged(), 2 | 8);
     }
 
+    /** Draws of two letters marked on 0 and 1 in which the first isn't there on day 3, by 2 to 4 days each. */
+    private static int absentFirst(long seed, int draws) {
+        int otherwise = 0;
+        for (int i = 0; i < draws; i++) {
+            seed = (seed * 1103515245L + 12345) % 2147483648L;
+            otherwise += 2 + seed / 65536 % 3 > 3 ? 1 : 0;
+            seed = (seed * 1103515245L + 12345) % 2147483648L;
+        }
+        return otherwise;
+    }
+
     private static void lots() {
         // seed 0 draws 0, 21468, 9988, 22117, 3498, 16927, ...: modulo 3 0, 0, 1, 1, 0, 1, 1, 1, 2, 1
         PostStones x = Due.told(LetterTests.GAME);
@@ -81,6 +92,22 @@ public final class OfficeTests {
         x.letter(0, 1, 4, -1);
         x.when(0, -1, 133);
         Due.due("lot(2, 0, 4): the same row by the other letter", x.lot(2, 0, 4), 2);
+        // letter 1 comes on day 3 now and then; it counts only ahead of letter 0 if that isn't there
+        PostStones y = Due.told(LetterTests.GAME);
+        y.letter(0, 0, 2, -1);
+        y.when(0, -1, 133);
+        y.letter(0, 1, 9, -1);
+        y.when(0, -1, 1);
+        y.day(4);
+        Due.due("lot(2, 0, 4): letter 1 there, the same row", y.lot(2, 0, 4), 0);
+        y.day(3);
+        Due.due("lot(2, 0, 4) on day 3", y.lot(2, 0, 4), 0);
+        Due.due("lot(2, 1, 20) on day 3: now the other one alone", y.lot(2, 1, 20), absentFirst(1, 20));
+        PostStones z = Due.told("kind a leaps 1 0;stone a 0 0 0;stone a 1 0 1;post 2 2;");
+        z.letter(0, 1, 4, -1);
+        z.when(0, -1, 1);
+        z.day(3);
+        Due.due("lot(2, 5, 7): always in two days", z.lot(2, 5, 7), 7);
         Due.due("lot(4, 0, 1)", x.lot(4, 0, 1), -1);
         Due.due("lot(-1, 0, 1)", x.lot(-1, 0, 1), -1);
         Due.due("lot(0, -1, 1)", x.lot(0, -1, 1), -1);

@@ -65,7 +65,15 @@ public final class RowTests {
         worth("2 <= 2", 1);
         worth("2 <> 2", 0);
         worth("2 >= 3", 0);
+        worth("3 >= 3", 1);
         worth("3 > 2", 1);
+        worth("3 > 3", 0);
+        worth("4 - 1 > 3", 0);
+        worth("3 = 3", 1);
+        worth("3 = 4", 0);
+        worth("3 <> 4", 1);
+        worth("4 < 5", 1);
+        worth("5 <= 4", 0);
         worth("0 - 1 < 0", 1);
         worth("1000*1000*1000*1000", 1000000000000L);
         worth("1000*1000*1000*1000+1", ERROR);

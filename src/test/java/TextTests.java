@@ -22,6 +22,8 @@ public final class TextTests {
         for (int what = 0; what < counts.length; what++) {
             Due.due("count(" + what + ") of a new one", x.count(what), counts[what]);
         }
+        Due.due("fault(0) of a new one", x.fault(0), 0);
+        Due.due("fault(1) of a new one", x.fault(1), PostStones.NONE);
         Due.due("text(1) of an empty tape", x.text(1), -2);
         Due.due("text(0) of an empty tape", x.text(0), 0);
         Due.due("at(0, 8)", x.at(0, 8), -2);
@@ -86,6 +88,7 @@ public final class TextTests {
         good("kind a leaps 1 0;kind aa leaps 1 0;", 2);
         good("law not not 1 or not (2 < 3) and 4 <= 5 - 6 * 7 / (8 + 9999);", 1);
         good("law takes<>far+row;", 1);
+        good("law 1 and not 0 or not 1;", 1);
         good("law ((((((((1))))))))+((((((((1))))))));", 1);
         fault("Board 3 3;", 1, 0);
         fault("late\t;", 1, 4);
@@ -100,6 +103,10 @@ public final class TextTests {
         fault("kind abcdefg leaps 1 0;", 1, 5);
         fault("kind king leaps 1 0;", 1, 5);
         fault("kind others leaps 1 0;", 1, 5);
+        String words = "board kind leaps runs king stone law post days late or and not takes far row stones others ply";
+        for (String word : words.split(" ")) {
+            fault("kind " + word + " leaps 1 0;", 1, 5);
+        }
         fault("kind k jumps 1 0;", 1, 7);
         fault("kind k leaps 1;", 1, 14);
         fault("kind k leaps 1 0 1;", 1, 18);
