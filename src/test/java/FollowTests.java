@@ -109,6 +109,7 @@ public final class FollowTests {
         Due.due("reply(0, 0, 1, 1)", x.reply(0, 0, 1, 1), -1);
         Due.due("reply(0, 0, 1, -1)", x.reply(0, 0, 1, -1), -1);
         Due.due("refuted(0, 0, 1) of who is to move", x.refuted(0, 0, 1), -2);
+        Due.due("refuted(0, 0, 0) of who is to move", race(1, 0).refuted(0, 0, 0), -2);
         // the first step leads to where it is taken at once, the second not
         PostStones y = Due.told("board 3 3;kind a leaps 1 0 0 1;kind b leaps -1 0;stone a 0 0 0;stone b 1 2 0;");
         Due.due("reply(0, 0, 0, 0)", y.reply(0, 0, 0, 0), 1);

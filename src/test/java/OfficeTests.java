@@ -55,6 +55,11 @@ public final class OfficeTests {
         PostStones y = Due.told("post 2 4;");
         y.letter(0, 5, 10, -1);
         Due.due("forged(): too slow", y.forged(), 1);
+        y.undo();
+        y.letter(0, 5, 8, -1);
+        y.log(0, 9);
+        y.log(0, 7);
+        Due.due("forged(): the first LOG doesn't hold", y.forged(), 1);
         PostStones z = new PostStones();
         z.letter(0, 5, 9, -1);
         z.letter(0, 5, 16, -1);

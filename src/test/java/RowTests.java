@@ -181,6 +181,37 @@ public final class RowTests {
         }
     }
 
+    /** Boards, counts and orders are made anew with each change. */
+    private static void anew() {
+        PostStones x = Due.told("kind a leaps 1 0 0 1;stone a 0 0 0;stone a 1 1 0;stone a 1 0 1;law stones * 10 + others;");
+        for (int day = 0; day < 3; day++) {
+            x.day(day);
+            Due.due("law(0, 1) on day " + day, x.law(0, 1), 12);
+        }
+        for (int mark = 5; mark >= 0; mark--) {
+            x.letter(0, mark, 9, -1);
+            x.when(0, -1, mark % 2 == 0 ? 1 : 3);
+            Due.due("by(0, 0) with a MARK on " + mark, x.by(0, 0), 5 - mark);
+        }
+        Due.due("whence(0, 0, 1)", x.whence(0, 0, 1), 2);
+        Due.due("law(0, 197): player 0's stone took one", x.law(0, 64 * 3 + 4), 11);
+        Due.tell(x, "kind k leaps 1 0 king;kind a leaps 0 1;stone k 0 0 0;stone k 1 0 2;");
+        Due.due("end(0) with kings", x.end(0), 0);
+        Due.tell(x, "kind k leaps 1 0 king;kind a leaps 0 1;stone a 0 0 0;stone a 1 0 1;");
+        Due.due("end(0): a king of a text ahead isn't missed", x.end(0), 0);
+        PostStones y = Due.told("board 5 5;kind a leaps 1 0 -1 0;kind b leaps 0 4 0 -4;stone a 0 0 2;stone b 1 4 4;");
+        int[] there = {64 * 10 + 11, 64 * 24 + 4, 64 * 11 + 10, 64 * 4 + 24};
+        for (int player = 0; player < 2; player++) {
+            y.letter(player, 0, 0, -1);
+            for (int ply = player; ply < 8 + player; ply += 2) {
+                y.when(ply, -1, there[ply % 4]);
+            }
+        }
+        Due.due("end(0): stones on the last point and in the middle are there again", y.end(0), 3);
+        y.undo();
+        Due.due("end(0): not without the last move", y.end(0), 0);
+    }
+
     private static void ends() {
         PostStones x = new PostStones();
         Due.due("end(0) without stones", x.end(0), 2);
@@ -248,6 +279,7 @@ public final class RowTests {
         laws();
         views();
         order();
+        anew();
         ends();
         repeated();
         sixty("", 3);

@@ -54,6 +54,26 @@ public final class TextTests {
         Due.due("feed: -2 leaves the tape", y.feed(0, 0, 0, 0, 0), 40);
     }
 
+    /** The text ends with its n-th byte, even within a word, a number or a sign. */
+    private static void cut(String text, int n, int place) {
+        PostStones x = new PostStones();
+        int[] f = Due.five(text, 0);
+        x.feed(f[0], f[1], f[2], f[3], f[4]);
+        Due.due("text(" + n + ") of " + text, x.text(n), PostStones.NONE);
+        Due.due("fault(0)", x.fault(0), 1);
+        Due.due("fault(1) of text(" + n + ") of " + text, x.fault(1), place);
+    }
+
+    private static void cuts() {
+        cut("late;", 3, 0);
+        cut("late;", 4, 4);
+        cut("days 12;", 6, 6);
+        cut("law 1 <= 2;", 7, 7);
+        cut("law 1 <= 2;", 8, 8);
+        cut("law 1 <> 2;", 7, 7);
+        cut("law 1 >= 2;", 7, 7);
+    }
+
     private static void textClears() {
         PostStones x = Due.told("board 4 5;days 7;" + KIND);
         x.letter(0, 1, 2, -1);
@@ -142,6 +162,12 @@ public final class TextTests {
         }
         PostStones x = Due.told(sum + ";");
         Due.due("count(4): 64 KNOTS", x.count(4), 64);
+        StringBuilder nots = new StringBuilder("kind k leaps 1 0;stone k 0 0 0;law ");
+        for (int i = 0; i < 53; i++) {
+            nots.append("not ");
+        }
+        nots.append("(0 * (1 - (1 - (1 - (1 - 1)))));");
+        Due.due("law(0, 1) of 53 times not 0: the pile is high", Due.told(nots.toString()).law(0, 1), 1);
         fault(sum + "+1;", 2, sum.length());
         fault(sum + "(1;", 1, sum.length());
         fault(sum.substring(0, sum.length() - 2) + "*((;", 1, sum.length() + 1);
@@ -219,6 +245,7 @@ public final class TextTests {
     public static void main(String[] args) {
         newObject();
         feed();
+        cuts();
         textClears();
         grammar();
         lawGrammar();
