@@ -48,14 +48,14 @@ final class Due {
         return x;
     }
 
-    /** What look() answers; -100 and -200 for its two exceptions. */
+    /** What look() answers; -100 and -200 for its two exceptions, -300 for one of a class below them. */
     static int look(PostStones x, int kind, int what) {
         try {
             return x.look(kind, what);
         } catch (IndexOutOfBoundsException e) {
-            return -100;
+            return e.getClass() == IndexOutOfBoundsException.class ? -100 : -300;
         } catch (java.util.NoSuchElementException e) {
-            return -200;
+            return e.getClass() == java.util.NoSuchElementException.class ? -200 : -300;
         }
     }
 }

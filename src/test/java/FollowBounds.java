@@ -302,6 +302,11 @@ final class FollowBounds {
         Bounds.promise(26, "-2: there is none, it is an END, or they are to move;");
         Bounds.due("refuted(0, 1, 0): none", left(3).refuted(0, 1, 0), -2);
         Bounds.due("refuted(0, 1, 2): none", left(5).refuted(0, 1, 2), -2);
+        Game corner = Game.told("kind a leaps 1 0 -1 0;stone a 1 0 0;stone a 0 1 2;");
+        for (int n = 0; n <= 2; n++) {
+            Bounds.due("refuted(0, 1, n): none, of one stone on point 0", corner.refuted(0, 1, n), -2);
+            Bounds.due("safe(0, 1, n, 0) of one stone on point 0", corner.safe(0, 1, n, 0), 2);
+        }
         for (Game end : new Game[] {new Game(), left(0), lostByOne(), RuleBounds.again("", 8), RuleBounds.sixty("", 60)}) {
             Bounds.due("refuted() of player 0 at an END", end.refuted(0, 0, 1), -2);
             Bounds.due("refuted() of player 1 at an END", end.refuted(0, 1, 1), -2);

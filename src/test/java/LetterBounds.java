@@ -444,6 +444,21 @@ final class LetterBounds {
         Bounds.due("count(6)", x.count(6), 0);
         Bounds.due("count(7): the DAY stays", x.count(7), 6);
         Bounds.due("back(): the IMAGE stays", x.back(), 1);
+        Game logs = Game.told(TEXT);
+        logs.letter(0, 1, 4, -1);
+        logs.letter(1, 5, 8, 0);
+        logs.log(0, 2);
+        logs.log(1, 6);
+        logs.log(0, 900);
+        logs.log(1, 900);
+        logs.log(0, 3);
+        logs.undo();
+        Bounds.due("count(6): the LOGS between others went", logs.count(6), 3);
+        Bounds.due("forged(): the other letter's LOGS are as they were", logs.forged(), 1);
+        logs.letter(1, 5, 8, 0);
+        logs.letter(0, 1, 4, -1);
+        Bounds.due("count(6): a new letter has no LOGS", logs.count(6), 3);
+        Bounds.due("log(1, 6)", logs.log(1, 6), 4);
         Game six = withIfs(6);
         Bounds.due("undo() of the sixth IF", six.undo(), 3);
         Bounds.due("when() in place of it", six.when(0, -1, 1), 6);
@@ -494,6 +509,21 @@ final class LetterBounds {
         Game kept = some();
         kept.keep();
         Bounds.same("back()", y, kept);
+        Game logs = Game.told(TEXT);
+        logs.letter(0, 1, 4, -1);
+        logs.letter(1, 5, 8, 0);
+        logs.log(0, 2);
+        logs.log(1, 900);
+        logs.keep();
+        logs.undo();
+        logs.undo();
+        logs.letter(0, 1, 4, -1);
+        logs.letter(0, 1, 4, -1);
+        logs.log(0, 900);
+        logs.log(0, 3);
+        Bounds.due("forged()", logs.forged(), 1);
+        Bounds.due("back()", logs.back(), 2);
+        Bounds.due("forged(): by the LOGS of the IMAGE", logs.forged(), 2);
         Game twice = some();
         Bounds.due("back() to the first IMAGE", twice.back(), 1);
         Bounds.due("count(6)", twice.count(6), 1);
@@ -508,12 +538,70 @@ final class LetterBounds {
         emptyAll(full);
         Bounds.due("back() to 16", full.back(), 16);
         Bounds.due("post(14, 5)", full.post(14, 5), 13);
+        wholeImage();
         Bounds.promise(34, "NONE: there is none.");
         Bounds.refused("back() of a new one", Game::new, g -> g.back(), Bounds.NONE);
         Bounds.refused("back() with letters", LetterBounds::sixteen, g -> g.back(), Bounds.NONE);
         Game told = some();
         told.tell("late;");
         Bounds.due("back() behind a text", told.back(), Bounds.NONE);
+    }
+
+    /** Sixty IFS in ten letters and six sent again, kept, then taken away and written over by others. */
+    private static void wholeImage() {
+        int[] moves = new int[60];
+        Game row = RuleBounds.sixty("", 60);
+        for (int k = 0; k < 60; k++) {
+            moves[k] = row.row(0, k);
+        }
+        Game x = RuleBounds.sixty("", 0);
+        emptyAll(x);
+        for (int letter = 0; letter < 10; letter++) {
+            x.letter(letter % 2, letter, letter + 4, letter % 2 == 0 ? -1 : letter - 1);
+            for (int i = 0; i < 6; i++) {
+                int ply = letter / 2 * 12 + 2 * i + letter % 2;
+                x.when(ply, ply == 0 ? -1 : moves[ply - 1], moves[ply]);
+            }
+        }
+        for (int letter = 10; letter < 16; letter++) {
+            x.resent(letter - 10, 900, 900 + letter);
+        }
+        for (int i = 0; i < 5; i++) {
+            x.log(3 * i, 3 * i + 1);
+        }
+        x.day(321);
+        Bounds.due("keep()", x.keep(), 16);
+        for (int i = 0; i < 6 + 70; i++) {
+            x.undo();
+        }
+        Bounds.due("count(5)", x.count(5), 0);
+        for (int letter = 0; letter < 16; letter++) {
+            x.letter(1 - letter % 2, 999, 0, -1);
+            for (int i = 0; i < 6 && letter < 10; i++) {
+                x.when(1 - letter % 2, 7, 4095);
+            }
+        }
+        for (int i = 0; i < 7; i++) {
+            x.log(15 - i, 500);
+        }
+        x.day(4);
+        Bounds.due("back()", x.back(), 16);
+        Bounds.due("count(6)", x.count(6), 5);
+        Bounds.due("count(7)", x.count(7), 321);
+        Bounds.due("plies(0)", x.plies(0), 60);
+        for (int k = 0; k < 60; k++) {
+            Bounds.due("row(0, " + k + ")", x.row(0, k), moves[k]);
+        }
+        for (int letter = 0; letter < 16; letter++) {
+            int first = letter % 10;
+            int[] due = {first % 2, letter < 10 ? letter : 900, letter < 10 ? letter + 4 : 900 + letter, first % 2 == 0 ? -1 : first - 1, 6,
+                letter < 10 ? -1 : first};
+            for (int what = 0; what < 6; what++) {
+                Bounds.due("post(" + letter + ", " + what + ")", x.post(letter, what), due[what]);
+            }
+        }
+        Bounds.due("whence(15, 5, 1)", x.whence(15, 5, 1), 2);
+        Bounds.due("whence(9, 5, 0)", x.whence(9, 5, 0), 1);
     }
 
     private static void emptyAll(Game x) {

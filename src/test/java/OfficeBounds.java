@@ -232,7 +232,55 @@ final class OfficeBounds {
         Bounds.due("lot(2, ..): neither is there", same.lot(2, 0, 20), 20);
         same.day(107);
         Bounds.due("lot(2, ..): the same MOVE by the other letter", same.lot(2, 0, 20), 0);
+        otherMoves();
+        sentAgain();
         lot();
+    }
+
+    /** The ROW is as long as it is, but by another MOVE: the first one, or one behind it. */
+    private static void otherMoves() {
+        Game first = Game.told(STONES + "post 7 7;");
+        first.letter(0, 100, 105, -1);
+        first.when(0, -1, 1);
+        first.letter(0, 98, 999, -1);
+        first.when(0, -1, 3);
+        first.day(105);
+        Bounds.due("plies(2)", first.plies(2), 1);
+        Bounds.due("lot(2, ..): another first MOVE", first.lot(2, 0, 20), 20);
+        Bounds.due("lot(1, ..): one's own are known", first.lot(1, 0, 20), 0);
+        Game second = Game.told("kind k leaps 1 0 0 1 -1 0;stone k 0 0 0;stone k 1 1 1;post 7 7;");
+        second.letter(0, 90, 90, -1);
+        second.when(0, -1, 1);
+        second.letter(1, 100, 105, -1);
+        second.when(1, -1, 64 * 4 + 5);
+        second.letter(1, 98, 999, -1);
+        second.when(1, -1, 64 * 4 + 7);
+        second.day(105);
+        Bounds.due("plies(3)", second.plies(3), 2);
+        Bounds.due("lot(3, ..): another second MOVE", second.lot(3, 0, 20), 20);
+    }
+
+    private static void sentAgain() {
+        for (int seed = 0; seed < 30; seed++) {
+            int[] more = numbers(seed, 60, 3);
+            for (int which = 0; which < 3; which++) {
+                Game x = Game.told(STONES + "post 2 4;");
+                x.letter(0, which == 2 ? 900 : 100, 999, -1);
+                x.when(0, -1, 1);
+                x.resent(0, which == 0 ? 900 : 100, 999);
+                x.letter(0, 900, 999, -1);
+                x.resent(0, which == 0 ? 900 : 100, 999);
+                x.undo();
+                x.day(103);
+                int due = 0;
+                for (int draw = 0; draw < 20; draw++) {
+                    boolean one = which != 2 && more[3 * draw] <= 1;
+                    boolean two = which != 0 && more[3 * draw + 1] <= 1;
+                    due += one || two ? 1 : 0;
+                }
+                Bounds.due("lot(2, " + seed + ", 20) with one sent again, case " + which, x.lot(2, seed, 20), due);
+            }
+        }
     }
 
     private static void lot() {

@@ -155,6 +155,12 @@ final class RuleBounds {
         terms("kind: its number;");
         named("kind", a, 1, 0);
         named("kind", "stone b 0 0 0;", 6, 1);
+        // each stone's own KIND, whichever of them was asked for ahead
+        Game both = Game.told("kind a leaps 1 0;kind b leaps 1 0 king;stone b 0 0 0;stone a 0 0 1;stone b 1 0 2;law 10 * kind + king + 7;");
+        int[][] asked = {{0, 18}, {3, 7}, {0, 18}, {0, 18}, {3, 7}, {3, 7}};
+        for (int[] one : asked) {
+            Bounds.due("law() of the stone on " + one[0], both.law(0, move(one[0], one[0] + 1)), one[1]);
+        }
         Bounds.due("law() of the fourth KIND", Game.told("kind a leaps 1 0;kind b leaps 1 0;kind c leaps 1 0;kind d leaps 1 0;"
             + "stone d 0 0 0;law kind;").law(0, 1), 3);
         terms("king: 1, if the KIND is a king.");
@@ -176,6 +182,11 @@ final class RuleBounds {
         x.letter(0, 0, 0, -1);
         x.when(0, -1, 1);
         Bounds.due("law() of player 1 behind it", x.law(0, move(7, 8)), 11);
+        Game more = behind("kind a leaps 1 0;stone a 0 0 0;stone a 0 0 1;stone a 1 0 2;stone a 1 1 2;stone a 1 1 1;law 10 * stones + others;", 1);
+        Bounds.due("law() where player 1 is to move", more.law(0, move(4, 5)), 32);
+        Bounds.due("law() of another one of the three", more.law(1, move(7, 8)), 32);
+        more.undo();
+        Bounds.due("law() where player 0 is to move", more.law(0, 1), 23);
         terms("ply: how many MOVES there were;");
         Game sixty = sixty("law ply + 1;", 60);
         Bounds.due("law() behind 60 MOVES", sixty.law(0, move(12, 13)), 61);
@@ -194,12 +205,14 @@ final class RuleBounds {
         worth("7 < 8", 1);
         worth("8 < 8", 0);
         worth("8 <= 8", 1);
+        worth("7 <= 8", 1);
         worth("9 <= 8", 0);
         worth("8 = 8", 1);
         worth("8 = 9", 0);
         worth("8 <> 9", 1);
         worth("8 <> 8", 0);
         worth("8 >= 8", 1);
+        worth("9 >= 8", 1);
         worth("7 >= 8", 0);
         worth("9 > 8", 1);
         worth("8 > 8", 0);
@@ -283,6 +296,14 @@ final class RuleBounds {
         Bounds.due("end(0): he has another one", behind(taken + "stone k 1 2 2;", 1).end(0), 0);
         Bounds.due("end(0): none was given", behind(taken.replace("stone k", "stone a"), 1).end(0), 0);
         Bounds.due("end(0): no KIND is one", behind(taken.replace(" king;", ";"), 1).end(0), 0);
+        Game twice = Game.told(taken);
+        twice.letter(0, 0, 0, -1);
+        for (int time = 0; time < 3; time++) {
+            Bounds.due("end(0) ahead of it", twice.end(0), 0);
+            twice.when(0, -1, 1);
+            Bounds.due("end(0): the king is taken, asked for once more", twice.end(0), 1);
+            twice.undo();
+        }
         Game zero = Game.told(KINGS + "stone k 0 0 0;stone a 0 1 1;stone a 1 2 0;");
         zero.letter(0, 0, 0, -1);
         zero.when(0, -1, move(0, 1));
@@ -319,6 +340,15 @@ final class RuleBounds {
         Bounds.due("end(0): the third time", again("", 8).end(0), 3);
         Bounds.due("plies(0): nothing is behind it", again("", 10).plies(0), 8);
         Bounds.due("end(0): no LAWFUL MOVE is asked first", again("law ply < 8;", 8).end(0), 2);
+        for (int point = 0; point < 25; point++) {
+            gone(point);
+        }
+        for (int[] kinds : new int[][] {{0, 1}, {0, 2}, {0, 3}, {1, 2}, {1, 3}, {2, 3}}) {
+            exchanged(kinds[0], kinds[1]);
+        }
+        for (int kind = 0; kind < 4; kind++) {
+            crossed(kind);
+        }
         Bounds.due("end(0) of 59", sixty("", 59).end(0), 0);
         Bounds.due("moves(0) of 59", sixty("", 59).moves(0) > 0 ? 1 : 0, 1);
         Bounds.due("plies(0) of 60", sixty("", 60).plies(0), 60);
@@ -326,6 +356,79 @@ final class RuleBounds {
         Bounds.due("moves(0) of 60", sixty("", 60).moves(0), 0);
         Bounds.due("end(0) of 60: no LAWFUL MOVE is asked first", sixty("law ply < 60;", 60).end(0), 2);
         tempo();
+    }
+
+    /** A row of MOVES, those of each player in letters of six IFS. */
+    private static Game played(String text, int... moves) {
+        Game x = Game.told(text);
+        for (int first = 0; first < moves.length; first += 12) {
+            for (int player = 0; player < 2; player++) {
+                x.letter(player, first, first, -1);
+                for (int ply = first + player; ply < Math.min(moves.length, first + 12); ply += 2) {
+                    x.when(ply, -1, moves[ply]);
+                }
+            }
+        }
+        return x;
+    }
+
+    /** The first board comes again twice, but without the stone that was taken on a point: it isn't the same. */
+    private static void gone(int point) {
+        int x = point % 5;
+        int from = x < 4 ? point + 1 : point - 1;
+        int aside = point < 5 ? 20 : 0;
+        String text = "board 5 5;kind a leaps 1 0 -1 0;stone a 0 " + from % 5 + " " + from / 5 + ";stone a 1 " + x + " " + point / 5
+            + ";stone a 1 0 " + aside / 5 + ";";
+        int[] round = {move(from, point), move(aside, aside + 1), move(point, from), move(aside + 1, aside)};
+        int[] moves = new int[10];
+        for (int ply = 0; ply < 10; ply++) {
+            moves[ply] = round[ply % 4];
+        }
+        Game y = played(text, moves);
+        Bounds.due("plies(0) with one taken on " + point, y.plies(0), 9);
+        Bounds.due("end(0) with one taken on " + point, y.end(0), 3);
+        Bounds.due("at(0, " + point + "): the taker, for the third time", y.at(0, point), 0);
+        y.undo();
+        Bounds.due("end(0) with one taken on " + point + ", one MOVE ahead", played(text, java.util.Arrays.copyOf(moves, 8)).end(0), 0);
+    }
+
+    private static String fourCrossers() {
+        StringBuilder s = new StringBuilder("board 3 5;");
+        for (char kind = 'a'; kind <= 'd'; kind++) {
+            s.append("kind ").append(kind).append(" runs 1 0 -1 0 0 1 1 -1 -1 -1;");
+        }
+        return s.toString();
+    }
+
+    /** Stones of two KINDS change places and change back: between, the board isn't the same. */
+    private static void exchanged(int one, int two) {
+        String text = fourCrossers() + "stone " + (char) ('a' + one) + " 0 0 0;stone " + (char) ('a' + two) + " 0 1 0;stone a 1 0 4;";
+        int[] own = {move(0, 3), move(1, 0), move(3, 1)};
+        int[] others = {move(12, 13), move(13, 14), move(14, 12)};
+        int[] moves = new int[12];
+        for (int ply = 0; ply < 12; ply++) {
+            moves[ply] = ply % 2 == 0 ? own[ply / 2 % 3] : others[ply / 2 % 3];
+        }
+        Game x = played(text, moves);
+        Bounds.due("plies(0) with kinds " + one + ", " + two + " changing places", x.plies(0), 12);
+        Bounds.due("end(0): the first board, for the second time only", x.end(0), 0);
+        Bounds.due("at(0, 0)", x.at(0, 0), one);
+        Bounds.due("at(0, 1)", x.at(0, 1), two);
+    }
+
+    /** Stones of one KIND, but of two players, change places and change back. */
+    private static void crossed(int kind) {
+        String name = " " + (char) ('a' + kind);
+        String text = fourCrossers() + "stone" + name + " 0 0 0;stone" + name + " 1 1 0;";
+        int[] moves = {move(0, 3), move(1, 4), move(3, 1), move(4, 0), move(1, 4), move(0, 3), move(4, 0), move(3, 1)};
+        Game x = played(text, moves);
+        Bounds.due("plies(0) with players changing places", x.plies(0), 8);
+        Bounds.due("end(0): the first board, for the second time only", x.end(0), 0);
+        int[] twice = java.util.Arrays.copyOf(moves, 16);
+        System.arraycopy(moves, 0, twice, 8, 8);
+        Game y = played(text, twice);
+        Bounds.due("plies(0) with players changing places twice", y.plies(0), 16);
+        Bounds.due("end(0): the first board, for the third time", y.end(0), 3);
     }
 
     /** The same board with the other to move is another: one goes round by three MOVES, the other by two. */

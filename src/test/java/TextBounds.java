@@ -329,6 +329,35 @@ final class TextBounds {
         }
         good("kind k leaps 4 4 -4 -4 0 4 -4 0;", 1);
         fault("kind k leaps 0 ^0;", 5);
+        fourTimesEight();
+    }
+
+    /** Each of four KINDS has eight steps, and goes by those alone: no two KINDS begin with the same one. */
+    private static void fourTimesEight() {
+        int[][] around = {{1, 0}, {1, 1}, {0, 1}, {-1, 1}, {-1, 0}, {-1, -1}, {0, -1}, {1, -1}};
+        int[][] far = {{2, 1}, {1, 2}, {-1, 2}, {-2, 1}, {-2, -1}, {-1, -2}, {1, -2}, {2, -1}};
+        int[][] straight = {{2, 0}, {0, 2}, {-2, 0}, {0, -2}, {2, 2}, {-2, 2}, {-2, -2}, {2, -2}};
+        int[][] mixed = {{0, -1}, {2, 2}, {1, -2}, {-2, 0}, {1, 1}, {-1, 2}, {0, 2}, {-1, -1}};
+        int[][][] all = {around, far, straight, mixed};
+        StringBuilder kinds = new StringBuilder("board 5 5;");
+        for (int kind = 0; kind < 4; kind++) {
+            kinds.append("kind ").append((char) ('a' + kind)).append(" leaps");
+            for (int[] step : all[kind]) {
+                kinds.append(' ').append(step[0]).append(' ').append(step[1]);
+            }
+            kinds.append(';');
+        }
+        for (int kind = 0; kind < 4; kind++) {
+            Game x = good(kinds + "stone " + (char) ('a' + kind) + " 0 2 2;", 6);
+            Bounds.due("look(" + kind + ", 1)", x.look(kind, 1), 8);
+            Bounds.due("moves(0) of kind " + kind, x.moves(0), 8);
+            for (int k = 0; k < 8; k++) {
+                int to = 12 + all[kind][k][0] + 5 * all[kind][k][1];
+                Bounds.due("move(0, " + k + ") of kind " + kind, x.move(0, k), 64 * 12 + to);
+            }
+        }
+        Game one = good("board 5 5;kind a leaps 1 0;kind b leaps 0 1;kind c leaps -1 0;kind d leaps 0 -1;stone d 0 2 2;stone a 0 0 0;", 7);
+        Bounds.due("moves(0) of two with a step each", one.moves(0), 2);
     }
 
     private static String fourKinds() {
@@ -609,6 +638,8 @@ final class TextBounds {
         none.put("late;");
         Bounds.due("text(0)", none.text(0), 0);
         Bounds.same("text(0) of a TAPE that isn't empty", none, new Game());
+        left();
+        cut();
         Bounds.promise(3, "NONE with a FAULT, all stays;");
         for (String wrong : new String[] {"board 2 2;late;days 1;law 1;late;", "kind k runs 1 1 king;stone k 0 0 0;x", "post 0 0;post 0 0;"}) {
             Game faulty = rich();
@@ -625,6 +656,64 @@ final class TextBounds {
         Bounds.due("text(1) of an empty TAPE", tape.text(1), -2);
         Bounds.due("text(0) of an empty TAPE", tape.text(0), 0);
         Bounds.due("text(-1) of an empty TAPE", tape.text(-1), -2);
+    }
+
+    /** Three texts in one object, and of the first two nothing may be left: each has more of all than the third. */
+    private static void left() {
+        String full = "board 5 5;kind a runs 1 0 1 1 0 1 king;kind b leaps 1 0 1 1 0 1 -1 1 -1 0 -1 -1 0 -1 1 -1 king;kind c runs 0 1;"
+            + "kind d runs 0 1 king;stone a 0 0 0;stone b 1 4 4;stone c 0 1 0;stone d 1 3 4;law not (takes and far > 2);post 9 50;days 3;late;";
+        String[] thirds = {"", "board 2 4;", "kind a leaps 1 0;stone a 0 0 0;", "kind a leaps 1 0;kind b leaps 1 0 0 1;stone b 0 0 0;stone a 1 1 1;",
+            "kind k leaps 1 0 king;kind a leaps 1 0 0 1;stone a 0 0 0;stone k 1 0 1;",
+            "kind k leaps 1 0 0 1 king;kind a leaps 1 0;stone k 0 0 0;stone a 1 0 2;", "law 1 + 2;kind a runs 0 1;stone a 0 1 0;"};
+        for (String third : thirds) {
+            for (String second : new String[] {full, full + "x", full + "law 1;", full + "stone a 0 2 ?"}) {
+                Game x = Game.told(full);
+                x.tell(second);
+                x.letter(1, 9, 9, -1);
+                x.when(1, -1, 1);
+                x.tell(third);
+                Bounds.same("'" + third + "' behind two other texts", written(x), written(Game.told(third)));
+            }
+        }
+        for (String wrong : new String[] {"law ((1 +;", "law (((((((((1;", "law 1 < (2", "law not not (not 1 ?", "law 1 or 2 and not (3 < 4 < 5);"}) {
+            Game x = Game.told(KIND);
+            Bounds.due("text of " + wrong, x.tell(wrong), Bounds.NONE);
+            Bounds.due("text behind " + wrong, x.tell("kind a leaps 1 0;stone a 0 0 0;law 2 + 3 * (4 - 1);"), 3);
+            Bounds.due("law(0, 1) behind " + wrong, x.law(0, 1), 11);
+            Bounds.due("count(4) behind " + wrong, x.count(4), 7);
+            Bounds.due("text with a ) too much behind " + wrong, x.tell("law 1);"), Bounds.NONE);
+        }
+    }
+
+    /** Three letters, two of which tell a move each; by the post of 4 to 11 days only the last one isn't true. */
+    private static Game written(Game x) {
+        x.letter(0, 5, 10, -1);
+        Bounds.due("post(0, 4): the letter has no IFS yet", x.post(0, 4), 0);
+        x.when(0, -1, x.move(0, 0));
+        x.letter(0, 6, 17, -1);
+        x.when(0, -1, x.move(3, 1));
+        x.letter(1, 6, 18, -1);
+        x.day(17);
+        return x;
+    }
+
+    /** A TEXT ends where it is cut, though the word or number goes on behind it on the TAPE. */
+    private static void cut() {
+        Object[][] cuts = {{"late;", 3, 1, 0}, {"late;", 4, 1, 4}, {"lateness;", 4, 1, 4}, {"days 99;", 6, 1, 6}, {"days 9999;", 8, 1, 8},
+            {"days 9999;", 9, 2, 5}, {"late;days", 8, 1, 5}, {"late  ;", 5, 1, 5}, {"kind k leaps 1 -1;", 16, 1, 16}};
+        for (Object[] c : cuts) {
+            Game x = new Game();
+            x.put((String) c[0]);
+            Bounds.due("text(" + c[1] + ") of '" + c[0] + "'", x.text((Integer) c[1]), Bounds.NONE);
+            Bounds.due("fault(0) of it", x.fault(0), (Integer) c[2]);
+            Bounds.due("fault(1) of it", x.fault(1), (Integer) c[3]);
+        }
+        Game x = new Game();
+        x.put("late;?");
+        Bounds.due("text(5) of 'late;?'", x.text(5), 1);
+        x.put("days 9;9");
+        Bounds.due("text(7) of 'days 9;9'", x.text(7), 1);
+        Bounds.due("count(8)", x.count(8), 9);
     }
 
     private static Game richWithTape() {
