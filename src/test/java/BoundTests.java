@@ -6,6 +6,7 @@ public final class BoundTests {
         LetterBounds.all();
         FollowBounds.all();
         OfficeBounds.all();
+        QuietBounds.all();
         Bounds.close();
     }
 }

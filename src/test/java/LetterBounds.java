@@ -459,6 +459,17 @@ final class LetterBounds {
         logs.letter(0, 1, 4, -1);
         Bounds.due("count(6): a new letter has no LOGS", logs.count(6), 3);
         Bounds.due("log(1, 6)", logs.log(1, 6), 4);
+        int[][] seen = {{2, 900, 3, 0}, {900, 2, 3, 1}, {2, 3, 900, 1}, {2, 3, 4, 0}};
+        for (int[] s : seen) {
+            Game between = Game.told(TEXT);
+            between.letter(0, 1, 4, -1);
+            between.letter(1, 5, 8, 0);
+            between.log(0, s[0]);
+            between.log(1, s[1]);
+            between.log(0, s[2]);
+            between.undo();
+            Bounds.due("forged(): by the days of the other letter's LOGS", between.forged(), s[3]);
+        }
         Game six = withIfs(6);
         Bounds.due("undo() of the sixth IF", six.undo(), 3);
         Bounds.due("when() in place of it", six.when(0, -1, 1), 6);
