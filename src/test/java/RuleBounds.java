@@ -260,6 +260,11 @@ final class RuleBounds {
         worth("0 < 1000 * 1000 * 1000 * 1001", Bounds.ERROR);
         // as longs alone these products would be 0 and 1
         worth("4096 * 4096 * 256 * (4096 * 4096 * 256)", Bounds.ERROR);
+        worth("(0 - 4096 * 4096 * 256) * (4096 * 4096 * 256)", Bounds.ERROR);
+        worth("4096 * 4096 * 256 * (0 - 4096 * 4096 * 256)", Bounds.ERROR);
+        worth("(0 - 4096 * 4096 * 256) * (0 - 4096 * 4096 * 256)", Bounds.ERROR);
+        worth("4096 * 4096 * 1024 * (4096 * 4096 * 64)", Bounds.ERROR);
+        worth("4096 * 4096 * 64 * (4096 * 4096 * 1024)", Bounds.ERROR);
         worth("641 * (6700 * 100 * 100 * 100 + 417) * 1", Bounds.ERROR);
         worth(most + " * (0 - 1)", -1000000000000L);
         worth(most + " / 1 * 1", 1000000000000L);

@@ -498,6 +498,16 @@ final class TextBounds {
         fault("kind k leaps^", 1);
         fault("law (1^", 1);
         fault("law 1 or^", 1);
+        // a number stands for no sign, whatever the number of that sign's byte
+        for (int sign : new int[] {40, 41, 42, 43, 45, 47, 59, 60, 61, 62, 255, 256, 257, 258, 259}) {
+            fault("law 1 ^" + sign + " 2;", 1);
+            fault("law (1 ^" + sign + ";", 1);
+            fault("late ^" + sign + ";", 1);
+            fault("^" + sign + " late;", 1);
+            fault("kind k leaps ^" + sign + " 1 0;", 2);
+            fault("kind k leaps 1 0 ^" + sign + " 1;", 2);
+            Bounds.due("law(0, 1) of " + sign, good("kind a leaps 1 0;stone a 0 0 0;law " + sign + ";", 3).law(0, 1), sign);
+        }
     }
 
     private static void tooMuch() {
